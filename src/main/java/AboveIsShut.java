@@ -13,15 +13,23 @@ public final class AboveIsShut {
 
     private static final int MOST_DRAWERS = 6;
     private static final int MOST_STANDINGS = 64;
-    private static final int KINDS = 8;
     private static final int FIGURES = 10;
-    private static final int STUCK = 2;
     private static final int SHELVES = 8;
     private static final int SORTS = 3;
     private static final int MOST_ELEMENTS = 100;
     private static final int MOST_TURNS = 5;
     private static final int MOST_SEEDED = 60;
     private static final int WITHOUT_SIGN = 0x7fffffff;
+
+    private static final int DRAWER = 0;
+    private static final int FREE = 1;
+    private static final int STUCK = 2;
+    private static final int UNDER = 3;
+    private static final int OVER = 4;
+    private static final int LOOSE = 5;
+    private static final int ODD = 6;
+    private static final int LATCH = 7;
+    private static final int KINDS = 8;
 
     /** What a text wants next, byte by byte. */
     private static final int WANTS_LETTER = 0;
@@ -204,7 +212,7 @@ public final class AboveIsShut {
         if (!wall.canStand(drawers)) {
             return WRONG;
         }
-        Drawer free = made(1, 0);
+        Drawer free = made(FREE, 0);
         for (int many = 0; many <= wall.size; many++) {
             for (int set = 0; set <= wall.allBits(); set++) {
                 if (Integer.bitCount(set) == many) {
@@ -503,19 +511,19 @@ public final class AboveIsShut {
 
     private static Drawer made(int kind, int figure) {
         switch (kind) {
-            case 1:
+            case FREE:
                 return new Free(figure);
-            case 2:
+            case STUCK:
                 return new Stuck(figure);
-            case 3:
+            case UNDER:
                 return new Under(figure);
-            case 4:
+            case OVER:
                 return new Over(figure);
-            case 5:
+            case LOOSE:
                 return new Loose(figure);
-            case 6:
+            case ODD:
                 return new Odd(figure);
-            case 7:
+            case LATCH:
                 return new Latch(figure);
             default:
                 return new Drawer(figure);
@@ -767,7 +775,7 @@ public final class AboveIsShut {
         }
 
         boolean isJoiners() {
-            return howManyOf(0) == size;
+            return howManyOf(DRAWER) == size;
         }
     }
 
@@ -942,7 +950,7 @@ public final class AboveIsShut {
         }
 
         int kind() {
-            return 0;
+            return DRAWER;
         }
 
         boolean moves(int own, int standing) {
@@ -970,7 +978,7 @@ public final class AboveIsShut {
         }
 
         int kind() {
-            return 1;
+            return FREE;
         }
 
         boolean moves(int own, int standing) {
@@ -983,7 +991,7 @@ public final class AboveIsShut {
 
         /** Only those of this very kind have no failure; those under it have a drawer's. */
         void fail() {
-            if (kind() != 1) {
+            if (kind() != FREE) {
                 super.fail();
             }
         }
@@ -1013,7 +1021,7 @@ public final class AboveIsShut {
         }
 
         int kind() {
-            return 3;
+            return UNDER;
         }
 
         boolean moves(int own, int standing) {
@@ -1031,7 +1039,7 @@ public final class AboveIsShut {
         }
 
         int kind() {
-            return 4;
+            return OVER;
         }
 
         /** A standing has no bit for a drawer that is not there, so such a one counts as shut. */
@@ -1056,7 +1064,7 @@ public final class AboveIsShut {
         }
 
         int kind() {
-            return 5;
+            return LOOSE;
         }
 
         boolean moves(int own, int standing) {
@@ -1080,7 +1088,7 @@ public final class AboveIsShut {
         }
 
         int kind() {
-            return 6;
+            return ODD;
         }
 
         boolean moves(int own, int standing) {
@@ -1099,7 +1107,7 @@ public final class AboveIsShut {
         }
 
         int kind() {
-            return 7;
+            return LATCH;
         }
 
         boolean moves(int own, int standing) {
