@@ -45,6 +45,8 @@ final class HavingTest {
         Check.due("the highest is open", x.freed(4), 0);
         x.stand(3);
         Check.due("two open above", x.freed(7), 2);
+        Check.due("all of them", Check.walled("d20;d20;d20;").freed(7), 7);
+        Check.due("the only one", Check.walled("d20;").freed(1), 1);
         Check.due("freed(8)", x.freed(8), -1);
         Check.due("freed(-1)", x.freed(-1), -1);
         Check.due("the drawers stay", x.drawer(0, 0), 2);

@@ -77,6 +77,9 @@ final class LawsTest {
         x.stand(5);
         Check.due("from any standing", x.next(1, 0, 129, 0), 3);
         Check.due("the standing stays", x.standing(0), 5);
+        Check.due("free and over: that one alone open", x.next(0, 2, 18, 0), 4);
+        Check.due("under, over: all open", Check.walled("d00;").next(0, 0, 18, 0), 1);
+        Check.due("all open, one of two", Check.walled("d00;").next(0, 0, 18, 1), 1);
         Check.due("no such drawer", x.next(3, 0, 1, 0), -1);
         Check.due("no such drawer", x.next(-1, 0, 1, 0), -1);
         Check.due("figure 10", x.next(0, 10, 1, 0), -1);

@@ -63,6 +63,12 @@ final class ToldPullsTest {
             }
         }
         Check.due("the standing stays", free.standing(0), 0);
+        AboveIsShut joiners = Check.walled("d00;d00;d00;");
+        int at5 = joiners.seeded(9, 5, 0);
+        Check.due("the same once more", joiners.seeded(9, 5, 0), at5);
+        joiners.stand(7);
+        Check.due("one pull from all open: a draw of 0 alone moves", joiners.seeded(1, 3, 1), 0);
+        Check.due("one pull from all open: a draw of 0 alone moves", joiners.seeded(1, 3, 0), 7);
         AboveIsShut stuck = Check.walled("d20;o0;");
         Check.due("what may not be pulled is left out", stuck.seeded(60, 3, 0), 1);
         Check.due("and not counted", stuck.seeded(60, 3, 1), 0);

@@ -262,6 +262,14 @@ final class WallsTest {
         Check.due("changes(1, 0)", x.changes(1, 0), -11);
         x.row(1, 0, 3);
         Check.due("changes(1, 0), a row", x.changes(1, 0), -12);
+        int before = 7;
+        for (int kind = 0; kind < 8; kind++) {
+            x.keep(2, 1, kind, 9 - kind);
+            Check.due("KIND before " + kind, x.changes(2, 1), before);
+            Check.due("KIND " + kind, x.drawer(1, 0), kind);
+            Check.due("FIGURE of KIND " + kind, x.drawer(1, 1), 9 - kind);
+            before = kind;
+        }
     }
 
     private static void pulls() {

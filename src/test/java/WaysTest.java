@@ -8,6 +8,7 @@ final class WaysTest {
 
     public static void main(String[] args) {
         alongTheLongWay();
+        alongTheLongWayAtOnce();
         fewestByOtherLaws();
         first();
         far();
@@ -102,6 +103,22 @@ final class WaysTest {
         Check.due("never() of the joiner's", Check.walled("d00;d00;d00;").never(), 0);
         Check.due("never() of stuck ones", Check.walled("d20;d20;").never(), 3);
         Check.due("never() below a stuck one", Check.walled("d20;o0;d30;d30;").never(), 3);
+    }
+
+    /** Each on an object that was asked nothing before, or that has changed since. */
+    private static void alongTheLongWayAtOnce() {
+        for (int i = 0; i < 8; i++) {
+            Check.due("place", Check.walled("d00;d00;d00;").place(LONG_WAY[i]), i);
+            Check.due("at", Check.walled("d00;d00;d00;").at(i), LONG_WAY[i]);
+        }
+        AboveIsShut x = Check.walled("d00;d00;");
+        Check.due("place(2) of two", x.place(2), 1);
+        Check.due("one more", Check.read(x, "d00;"), 1);
+        Check.due("place(2) of three", x.place(2), 6);
+        Check.due("one more", Check.read(x, "d00;"), 1);
+        Check.due("at(15) of four", x.at(15), 7);
+        x.fewest(0, 0);
+        Check.due("at(10) of four", x.at(10), 0);
     }
 
     private static void refusalsOfTheLongWay() {
