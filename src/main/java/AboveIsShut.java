@@ -597,7 +597,7 @@ public final class AboveIsShut {
         int begin = 0;
         for (int i = 0; i < text.size; i++) {
             if (text.valueAt(i) == ';') {
-                if (!isDone(text, begin)) {
+                if (!carriedOut(text, begin)) {
                     return fault(2, begin);
                 }
                 statements++;
@@ -608,7 +608,7 @@ public final class AboveIsShut {
         return statements;
     }
 
-    private boolean isDone(Row text, int begin) {
+    private boolean carriedOut(Row text, int begin) {
         int number = text.valueAt(begin + 1) - '0';
         switch (text.valueAt(begin)) {
             case 'd':
