@@ -1,7 +1,11 @@
 /** All promises: runs of calls, by seeds that are always the same, on the class and on the model beside it. */
 final class ModelTest {
-    private static final int RUNS = 900;
+    private static final int RUNS = 4000;
+    /** So many calls of an object are promised. */
     private static final int CALLS = 512;
+    /** No step below takes more of them, but for the last one, which looks at everything. */
+    private static final int CALLS_OF_A_STEP = 30;
+    private static final int CALLS_OF_THE_LAST = 62;
     private static final int CALL_KINDS = 33;
     private static final int[] WILD = {
         Integer.MIN_VALUE, Integer.MIN_VALUE + 1, -65537, -256, -2, -1, 0, 1, 6, 7, 8, 9, 10, 63, 64, 99, 100, 101, 255,
@@ -10,6 +14,7 @@ final class ModelTest {
     private long seed;
     private AboveIsShut x;
     private Model model;
+    private int calls = 0;
 
     private ModelTest(long seed) {
         this.seed = seed;
@@ -27,15 +32,16 @@ final class ModelTest {
         model = new Model();
         // Some runs keep to few kinds, so that long ways and the joiner's way come up often enough.
         int kinds = run % 3 == 0 ? 1 : run % 3 == 1 ? 8 : 4;
-        for (int call = 0; call < CALLS; call++) {
-            String told = "run " + run + ", call " + call + ": ";
+        while (calls + CALLS_OF_A_STEP + CALLS_OF_THE_LAST <= CALLS) {
+            String told = "run " + run + ", call " + calls + ": ";
             if (below(12) == 0) {
                 text(told, kinds);
-                call += 1;
             } else {
                 answer(told, below(CALL_KINDS), kinds);
             }
         }
+        everything("run " + run + ", at its end: ");
+        Check.holds("no more calls than are promised", calls <= CALLS);
     }
 
     private int below(int n) {
@@ -53,11 +59,11 @@ final class ModelTest {
     }
 
     private int drawerNumber() {
-        return about(Math.max(1, x.count(0)));
+        return about(Math.max(1, model.count(0)));
     }
 
     private int bits() {
-        return about(1 << x.count(0));
+        return about(1 << model.count(0));
     }
 
     private void text(String told, int kinds) {
@@ -86,7 +92,8 @@ final class ModelTest {
         both(told + "wall of " + text, x.wall(d), model.wall(d));
     }
 
-    private static void both(String told, long got, long want) {
+    private void both(String told, long got, long want) {
+        calls++;
         Check.due(told, got, want);
     }
 
@@ -107,7 +114,7 @@ final class ModelTest {
         boolean trials = below(2) == 0;
         both(told + "row", x.row(d, sort, size), model.row(d, sort, size));
         for (int i = 0; i < size; i++) {
-            int v = trials && i % 2 == 1 ? below(2) : below(60) == 0 ? about(8) : below(Math.max(1, x.count(0)));
+            int v = trials && i % 2 == 1 ? below(2) : below(60) == 0 ? about(8) : below(Math.max(1, model.count(0)));
             both(told + "put", x.put(d, i, v), model.put(d, i, v));
         }
     }
@@ -175,9 +182,6 @@ final class ModelTest {
             case 30: both(call, x.cost(d), model.cost(d)); break;
             case 31: both(call, x.toss(d), model.toss(d)); break;
             default: tell(told, below(8)); break;
-        }
-        if (below(40) == 0) {
-            everything(told);
         }
     }
 
