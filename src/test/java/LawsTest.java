@@ -213,6 +213,14 @@ final class LawsTest {
         Check.due("the first has the last turn", x.game(0, 3), 1);
         Check.due("four turns", x.game(0, 4), 0);
         Check.due("five turns", x.game(0, 5), 1);
+        AboveIsShut lone = Check.alike(1, 1, 0);
+        for (int n = 0; n <= 5; n++) {
+            lone.stand(0);
+            Check.due("a lone one is shut, turns " + n, lone.game(0, n), n % 2);
+            lone.stand(1);
+            Check.due("a lone one is open: who would lose by a pull pulls none, turns " + n, lone.game(0, n),
+                n == 0 ? 1 : n % 2);
+        }
         AboveIsShut stuck = Check.walled("d20;o0;d20;");
         for (int n = 0; n <= 5; n++) {
             Check.due("a stuck one is open", stuck.game(0, n), 1);

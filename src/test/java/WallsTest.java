@@ -66,13 +66,17 @@ final class WallsTest {
         AboveIsShut opened = Check.walled("d20;d00;");
         Check.due("one that may not be pulled", Check.read(opened, "o0;"), 1);
         Check.due("is open", opened.standing(0), 1);
-        Check.due("one that is open", Check.read(opened, "o0;o0;"), 2);
+        Check.due("one that is open", Check.read(opened, "o0;"), 1);
+        Check.due("stays open", opened.standing(0), 1);
+        Check.due("by two statements", Check.read(opened, "o0;o0;"), 2);
         Check.due("stays open", opened.standing(0), 1);
 
         Check.term(2, "s, a DRAWER: it is shut");
         Check.due("one that may not be pulled", Check.read(opened, "o1;s0;"), 2);
         Check.due("is shut", opened.standing(0), 2);
-        Check.due("one that is shut", Check.read(opened, "s0;s0;"), 2);
+        Check.due("one that is shut", Check.read(opened, "s0;"), 1);
+        Check.due("stays shut", opened.standing(0), 2);
+        Check.due("by two statements", Check.read(opened, "s0;s0;"), 2);
         Check.due("stays shut", opened.standing(0), 2);
 
         Check.term(2, "p, a DRAWER: it is pulled");

@@ -290,6 +290,15 @@ final class WaysTest {
         Check.due("at(15) of four", growing.at(15), 7);
         growing.fewest(0, 0);
         Check.due("at(10) of four", growing.at(10), 0);
+        AboveIsShut fewer = Check.walled("d00;d00;");
+        fewer.image();
+        Check.due("four more", Check.read(fewer, "d00;d00;d00;d00;"), 4);
+        Check.due("had of six", fewer.had(63), 23);
+        Check.due("at(63) of six", fewer.at(63), 31);
+        Check.due("two again", fewer.restore(), 0);
+        for (int n = 0; n <= 63; n++) {
+            Check.due("at(" + n + ") of two, behind six", fewer.at(n), n < 4 ? 3 ^ n ^ n >> 1 : -4);
+        }
     }
 
     private static void atRefusals() {
