@@ -59,7 +59,24 @@ public final class AboveIsShut {
             return lacking(d);
         }
         int broken = brokenAt(text);
-        return broken >= 0 ? fault(1, broken) : read(text);
+        if (broken >= 0) {
+            return fault(1, broken);
+        }
+        // In mind first, because with a fault nothing of the text may come.
+        mind.takeFrom(wall);
+        int statements = 0;
+        int begin = 0;
+        for (int i = 0; i < text.size; i++) {
+            if (text.valueAt(i) == ';') {
+                if (!carriedOut(text, begin)) {
+                    return fault(2, begin);
+                }
+                statements++;
+                begin = i + 1;
+            }
+        }
+        wall.takeFrom(mind);
+        return statements;
     }
 
     public int drawer(int drawer, int what) {
@@ -588,24 +605,6 @@ public final class AboveIsShut {
 
     private static boolean isDigit(int sign) {
         return sign >= '0' && sign <= '9';
-    }
-
-    /** Reads in mind first, because with a fault nothing of the text may come. */
-    private int read(Row text) {
-        mind.takeFrom(wall);
-        int statements = 0;
-        int begin = 0;
-        for (int i = 0; i < text.size; i++) {
-            if (text.valueAt(i) == ';') {
-                if (!carriedOut(text, begin)) {
-                    return fault(2, begin);
-                }
-                statements++;
-                begin = i + 1;
-            }
-        }
-        wall.takeFrom(mind);
-        return statements;
     }
 
     private boolean carriedOut(Row text, int begin) {
